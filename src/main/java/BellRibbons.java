@@ -244,9 +244,11 @@ public final class BellRibbons {
         }
         boolean isTold = watcher.readPicture(tape) && tape.allWithin(ledger.seenRods(), n, 2 * REACH);
         int answer = CANNOT;
-        if (isTold) {
-            boolean isFound = watcher.findGust(tape, n);
-            answer = !isFound ? NO_SUCH : what == 0 ? watcher.gustWind + REACH : watcher.gustCrowd;
+        if (isTold && watcher.collectCases() == 0) {
+            answer = NO_SUCH;
+        } else if (isTold) {
+            watcher.findGust(tape, n);
+            answer = what == 0 ? watcher.gustWind + REACH : watcher.gustCrowd;
         }
         tape.empty();
         return answer;
@@ -503,11 +505,11 @@ public final class BellRibbons {
         }
 
         boolean isWhiteOf(int i, int person) {
-            return isHanging(i) && colour[i] == WHITE && owner[i] == person;
+            return hasRibbon(i) && hangs[i] && colour[i] == WHITE && owner[i] == person;
         }
 
         boolean isDebt(int i, int a, int b) {
-            return isHanging(i) && colour[i] == RED && owner[i] == a && to[i] == b;
+            return hasRibbon(i) && hangs[i] && colour[i] == RED && owner[i] == a && to[i] == b;
         }
 
         int hanging() {
@@ -1053,10 +1055,34 @@ public final class BellRibbons {
             }
         }
 
-        void shiftRibbon(int i, int moreHeavy, int morePush) {
-            if (ledger.hasRibbon(i)) {
-                shift(ledger.rod[i], ledger.arm[i], moreHeavy, morePush);
+        /** Whether the rods that feel ribbon i lean as told, if it were heavier and pushed by so much. */
+        boolean wouldLean(int i, int moreHeavy, int morePush, int[] leans) {
+            int r = ledger.hasRibbon(i) ? ledger.rod[i] : NONE;
+            int more = ledger.hasRibbon(i) ? ledger.arm[i] * moreHeavy + morePush : 0;
+            for (int k = 0; k < MOST_RODS && ledger.hasRod(r) && r < leans.length; k++) {
+                if (ledger.seen[r] && leanOf(moment[r] + more, ledger.stiff[r]) != leans[r]) {
+                    return false;
+                }
+                more = ledger.rodArm[r] * moreHeavy;
+                r = ledger.on[r];
             }
+            return true;
+        }
+
+        /** Whether the other rods, which never feel it, lean as told. */
+        boolean leanBeside(int i, int[] leans) {
+            int feeling = 0;
+            int above = ledger.hasRibbon(i) ? ledger.rod[i] : NONE;
+            for (int k = 0; k < MOST_RODS && ledger.hasRod(above); k++) {
+                feeling |= 1 << above;
+                above = ledger.on[above];
+            }
+            for (int r = 0; r < ledger.rods && r < leans.length; r++) {
+                if ((feeling >> r & 1) == 0 && ledger.seen[r] && lean(r) != leans[r]) {
+                    return false;
+                }
+            }
+            return true;
         }
 
         /** What a ribbon that hangs gives to the moment of rod 0. */
@@ -1200,23 +1226,26 @@ public final class BellRibbons {
             for (int d = 0; d < told && d < MOST_TOLD; d++) {
                 startDay(d, tape.byteAt(d) - REACH);
             }
-            for (int n = MOST_LENGTH - 1; n > 0; n--) {
-                if (isPossible(n) && findUnseen(n, told)) {
+            for (int n = mostPayable(); n > 0; n--) {
+                if (findUnseen(n, told)) {
                     return n;
                 }
             }
             return 0;
         }
 
-        /** Most n fail already here, before anything is weighed. */
-        private boolean isPossible(int n) {
-            boolean cuts = false;
-            boolean knots = false;
+        /** The longest one can give so much, the shortest one can take so much. */
+        private int mostPayable() {
+            int longest = 0;
+            int shortest = MOST_LENGTH;
             for (int i = 0; i < ledger.ribbons; i++) {
-                cuts = cuts || canCut(i, n);
-                knots = knots || canKnot(i, n);
+                if (ledger.isWhiteOf(i, from)) {
+                    longest = Math.max(longest, ledger.length[i]);
+                } else if (ledger.isWhiteOf(i, to)) {
+                    shortest = Math.min(shortest, ledger.length[i]);
+                }
             }
-            return cuts && knots;
+            return Math.min(longest - 1, MOST_LENGTH - shortest);
         }
 
         private boolean findUnseen(int n, int told) {
@@ -1224,11 +1253,13 @@ public final class BellRibbons {
                 weighChanges(d, n);
             }
             for (int i = 0; i < ledger.ribbons; i++) {
-                for (int j = 0; j < ledger.ribbons && canCut(i, n); j++) {
-                    if (canKnot(j, n) && isUnseen(i, j, told)) {
-                        first = i;
-                        second = j;
-                        return true;
+                if (canCut(i, n)) {
+                    for (int j = 0; j < ledger.ribbons; j++) {
+                        if (canKnot(j, n) && isUnseen(i, j, told)) {
+                            first = i;
+                            second = j;
+                            return true;
+                        }
                     }
                 }
             }
@@ -1280,7 +1311,8 @@ public final class BellRibbons {
 
         private void shift(int d, int i, int times) {
             if (d >= 0 && d < MOST_TOLD && ledger.hasRibbon(i)) {
-                days[d].shiftRibbon(i, times * moreHeavy[d][i], times * morePush[d][i]);
+                int heavier = times * moreHeavy[d][i];
+                days[d].shift(ledger.rod[i], ledger.arm[i], heavier, times * morePush[d][i]);
             }
         }
     }
@@ -1334,7 +1366,7 @@ public final class BellRibbons {
             for (int k = 0; k < told; k++) {
                 int i = ribbons[k];
                 if (ledger.hasRibbon(i)) {
-                    scale.shiftRibbon(i, -scale.heavy[i], -scale.push[i]);
+                    scale.shift(ledger.rod[i], ledger.arm[i], -scale.heavy[i], -scale.push[i]);
                 }
                 weighAtPlaces(k);
             }
@@ -1403,6 +1435,8 @@ public final class BellRibbons {
         private int[] cases;
         private long[] pictures;
         private int found;
+        // bits of the ribbons of which some length may fit the picture that is told
+        private long inQuestion;
         private int gustWind;
         private int gustCrowd;
 
@@ -1427,10 +1461,35 @@ public final class BellRibbons {
             return true;
         }
 
-        int falseLengths(int i) {
+        /** Weighs by the wind as it is; of a ribbon with a wrong rod beside it no length can be right. */
+        private void startWatch() {
             scale.weigh(ledger.wind);
+            inQuestion = 0;
+            for (int i = 0; i < ledger.ribbons; i++) {
+                if (ledger.hangs[i] && scale.leanBeside(i, told)) {
+                    inQuestion |= 1L << i;
+                }
+            }
+        }
+
+        private boolean isInQuestion(int i) {
+            return ledger.hasRibbon(i) && (inQuestion >> i & 1) != 0;
+        }
+
+        private boolean mayBe(int i, int length) {
+            if (!isInQuestion(i) || ledger.length[i] == length) {
+                return false;
+            }
+            law.look(ledger, i, length, ledger.wind);
+            int moreHeavy = law.ask(Law.HEAVY) - scale.heavy[i];
+            int morePush = law.ask(Law.PUSHED) - scale.push[i];
+            return scale.wouldLean(i, moreHeavy, morePush, told);
+        }
+
+        int falseLengths(int i) {
+            startWatch();
             int n = 0;
-            for (int length = 1; length <= MOST_LENGTH; length++) {
+            for (int length = 1; length <= MOST_LENGTH && isInQuestion(i); length++) {
                 if (mayBe(i, length)) {
                     n++;
                 }
@@ -1439,69 +1498,49 @@ public final class BellRibbons {
         }
 
         long suspectBits() {
-            scale.weigh(ledger.wind);
+            startWatch();
             long bits = 0;
             for (int i = 0; i < ledger.ribbons; i++) {
-                if (isSuspect(i)) {
+                boolean isFalse = false;
+                for (int length = 1; length <= MOST_LENGTH && isInQuestion(i) && !isFalse; length++) {
+                    isFalse = mayBe(i, length);
+                }
+                if (isFalse) {
                     bits |= 1L << i;
                 }
             }
             return bits;
         }
 
-        private boolean isSuspect(int i) {
-            for (int length = 1; length <= MOST_LENGTH; length++) {
-                if (mayBe(i, length)) {
-                    return true;
+        /** Each ribbon and length that may be false; how many. */
+        int collectCases() {
+            if (cases == null) {
+                cases = new int[MOST_CASES];
+            }
+            startWatch();
+            found = 0;
+            for (int i = 0; i < ledger.ribbons; i++) {
+                for (int length = 1; length <= MOST_LENGTH && isInQuestion(i); length++) {
+                    if (mayBe(i, length) && found < cases.length) {
+                        cases[found] = i * CODE + length;
+                        found++;
+                    }
                 }
             }
-            return false;
+            return found;
         }
 
-        private boolean mayBe(int i, int length) {
-            if (!ledger.isHanging(i) || ledger.length[i] == length) {
-                return false;
-            }
-            law.look(ledger, i, length, ledger.wind);
-            int moreHeavy = law.ask(Law.HEAVY) - scale.heavy[i];
-            int morePush = law.ask(Law.PUSHED) - scale.push[i];
-            scale.shiftRibbon(i, moreHeavy, morePush);
-            boolean isSo = scale.isPicture(told);
-            scale.shiftRibbon(i, -moreHeavy, -morePush);
-            return isSo;
-        }
-
-        /** The winds stand on the tape behind the picture; false: nothing may be false so. */
-        boolean findGust(Tape tape, int n) {
-            collectCases();
-            if (found == 0) {
-                return false;
-            }
+        /** Of the winds, which stand on the tape behind the picture, the one that parts the cases best. */
+        void findGust(Tape tape, int n) {
             int from = ledger.seenRods();
             gustCrowd = Integer.MAX_VALUE;
-            for (int k = 0; k < n; k++) {
+            // no wind can part them better than one by one
+            for (int k = 0; k < n && gustCrowd > 1; k++) {
                 int wind = tape.byteAt(from + k) - REACH;
                 int crowd = crowdBy(wind);
                 if (crowd < gustCrowd) {
                     gustCrowd = crowd;
                     gustWind = wind;
-                }
-            }
-            return true;
-        }
-
-        private void collectCases() {
-            if (cases == null) {
-                cases = new int[MOST_CASES];
-            }
-            scale.weigh(ledger.wind);
-            found = 0;
-            for (int i = 0; i < ledger.ribbons; i++) {
-                for (int length = 1; length <= MOST_LENGTH; length++) {
-                    if (mayBe(i, length) && found < cases.length) {
-                        cases[found] = i * CODE + length;
-                        found++;
-                    }
                 }
             }
         }
@@ -1526,9 +1565,9 @@ public final class BellRibbons {
             law.look(ledger, i, length, wind);
             int moreHeavy = law.ask(Law.HEAVY) - scale.heavy[i];
             int morePush = law.ask(Law.PUSHED) - scale.push[i];
-            scale.shiftRibbon(i, moreHeavy, morePush);
+            scale.shift(ledger.rod[i], ledger.arm[i], moreHeavy, morePush);
             long picture = scale.picture();
-            scale.shiftRibbon(i, -moreHeavy, -morePush);
+            scale.shift(ledger.rod[i], ledger.arm[i], -moreHeavy, -morePush);
             return picture;
         }
 
