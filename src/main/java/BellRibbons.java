@@ -3,7 +3,8 @@
  *
  * <p>The document's promises are kept by the public methods here; each hands its work to one of
  * the classes inside: the tape, the ledger, the law and its reader, the scale, and one class for
- * each kind of search. All rows are made once and used again, so that a call makes nothing.
+ * each kind of search. All rows are made once and used again: no call makes anything but the first
+ * gust, which makes the two long rows.
  */
 public final class BellRibbons {
     public static final int NONE = -1;

@@ -382,6 +382,18 @@ public final class PromisesTest {
         pays("rods that are not seen count", 0, 1, 98, 1, 0, 1);
         Due.law(x, "g7(1=1)");
         pays("by the law", 0, 1, 98, 0, 0, 1);
+        fresh();
+        x.rod(0, 5);
+        x.rod(1, -1);
+        x.white(2, 0, 3, 0);
+        x.white(0, 5, 3, 1);
+        x.white(2, 0, 3, 1);
+        x.stiff(0, 10);
+        x.stiff(1, 3);
+        // moments 45, -6 and 0: cut by 1 and knotted at rod 0 it is 45 still, but -5
+        pays("the rods above feel it", 0, 1, 1, 0, 0, 2);
+        x.fall(2);
+        pays("the rods above feel it", 0, 1, 1, 1, 0, 1);
     }
 
     private static void payRefused() {
@@ -424,7 +436,13 @@ public final class PromisesTest {
         due.is("17: done", levelBy(2, 6, crossed), 0);
         due.is("17: 0 hangs at 3", x.ribbon(0, 1), 3);
         due.is("17: 1 hangs at -2", x.ribbon(1, 1), -2);
-        x.pay(0, 1, 1, 2);
+        fresh();
+        x.rod(0, 3);
+        x.rod(1, 0);
+        x.white(2, 0, 2, 0);
+        x.white(0, -3, 2, 0);
+        due.is("17: the rods above feel it", levelBy(1, -1, 0, 0, 9), 6);
+        due.is("17: where it is", levelBy(1, -1, 0, 2, 9), 0);
         fresh();
         x.rod(0, 0);
         for (int k = 0; k < 6; k++) {
@@ -575,6 +593,8 @@ public final class PromisesTest {
         due.is("20: by 1 four lean 0 and four lean 1", gustBy(1, 1, 9, 10), 4);
         due.is("20: of like ones the first", gustBy(3, 0, 9, 10, 10, 9), 10);
         due.is("20: of like ones the first", gustBy(2, 0, 9, 18, 17), 18);
+        due.is("20: of like winds the first", gustBy(3, 0, 9, 8, 7, 9), 8);
+        due.is("20: of like winds the first", gustBy(3, 0, 9, 9, 7, 8), 9);
         due.is("20: the wind stays", x.count(5), 9);
         x.wind(9);
         // moments are ten times the length now: lean 3 by 3 alone
@@ -637,6 +657,14 @@ public final class PromisesTest {
         x.seen(0, false);
         x.move(0, 0, 9);
         due.is("21: nobody sees it", fraudBy(0, 1, 0, 9, 10, 11, 12, 13, 14), 19);
+        fresh();
+        x.rod(0, 1);
+        x.white(1, 1, 5, 0);
+        x.white(1, 0, 5, 1);
+        x.seen(1, false);
+        due.is("21: only what is seen", fraudBy(0, 1, 0, 9), 4);
+        x.seen(1, true);
+        due.is("21: it is seen", fraudBy(0, 1, 0, 9), -2);
         fresh();
         x.white(0, 0, 99, 0);
         x.white(0, 0, 1, 1);
@@ -716,6 +744,13 @@ public final class PromisesTest {
         rings("most is cut, sums of ribbons", 9, 3, 7, 5);
         x.fall(1);
         rings("what hangs alone", 6, 1, 6);
+        fresh();
+        for (int k = 0; k < 3; k++) {
+            x.red(0, 0, 2, k, (k + 1) % 3);
+        }
+        x.red(0, 0, 3, 4, 3);
+        x.red(0, 0, 3, 3, 4);
+        rings("fewest people before the least row", 6, 3, 4);
         fresh();
         for (int k = 0; k < 8; k++) {
             x.red(0, 0, 99, k, (k + 3) % 8);
@@ -831,6 +866,12 @@ public final class PromisesTest {
         due.is("26: what 1 of one", x.order(1, 5, 1), -1);
         due.is("26: nothing is changed", x.count(6), 4);
         orders("all eight", 255, 9, 12, 0, 1, 2, 3, 4, 5, 6, 7);
+        fresh();
+        x.white(0, 1, 5, 0);
+        x.white(0, 1, 6, 1);
+        x.white(0, 0, 5, 2);
+        x.white(0, -1, 6, 3);
+        orders("tipped stays tipped", 15, 0, 0, 0, 1, 2, 3);
     }
 
     // Promise 27
@@ -925,6 +966,16 @@ public final class PromisesTest {
         }
         due.is("30: numbers go on from there", x.white(0, 2, 3, 4), 3);
         due.is("30: it is a new one", x.ribbon(3, 4), 4);
+        x.rod(0, 1);
+        x.stiff(2, 50);
+        x.seen(2, false);
+        x.wet(2, true);
+        x.undo();
+        due.is("30: a rod's number, too", x.rod(1, 5), 2);
+        int[] rodTwo = {0, 0, 0, 1, 5, 1, 1, 0};
+        for (int k = 0; k < 8; k++) {
+            due.is("30: it is a new rod, " + k, x.rodIs(2, k), rodTwo[k]);
+        }
     }
 
     private static int checkBy(int n, int... numbers) {
