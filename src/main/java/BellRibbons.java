@@ -268,10 +268,14 @@ public final class BellRibbons {
     }
 
     public int owes(int a, int b) {
-        return isPerson(a) && isPerson(b) ? ledger.debt(a, b) : NONE;
+        return areTwo(a, b) ? ledger.debt(a, b) : NONE;
     }
 
     public int ring(int what) {
+        // what no ring could have is refused before one is looked for
+        if (!within(NONE, what, RING_SIZE)) {
+            return NONE;
+        }
         if (!debts.findBest()) {
             return CANNOT;
         }

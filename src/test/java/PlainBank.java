@@ -575,7 +575,7 @@ final class PlainBank {
     }
 
     int owes(int a, int b) {
-        if (!person(a) || !person(b)) {
+        if (!person(a) || !person(b) || a == b) {
             return -1;
         }
         int sum = 0;
@@ -629,6 +629,9 @@ final class PlainBank {
     }
 
     int ring(int what) {
+        if (what < -1 || what > 8) {
+            return -1;
+        }
         findRing();
         if (bestRing == null) {
             return -2;

@@ -707,11 +707,14 @@ public final class PromisesTest {
         due.is("22: together", x.owes(0, 1), 11);
         due.is("22: the other way", x.owes(1, 0), 7);
         due.is("22: nothing", x.owes(2, 0), 0);
-        due.is("22: himself", x.owes(0, 0), 0);
+        for (int p = 0; p < 8; p++) {
+            due.is("22: himself", x.owes(p, p), -1);
+        }
         x.fall(0);
         due.is("22: what hangs alone", x.owes(0, 1), 6);
         due.is("22: person 8", x.owes(0, 8), -1);
         due.is("22: person -1", x.owes(-1, 0), -1);
+        due.is("22: person 8 twice", x.owes(8, 8), -1);
     }
 
     private static void rings(String name, int cut, int... people) {
@@ -730,6 +733,11 @@ public final class PromisesTest {
         due.is("23: no debts", x.ring(-1), -2);
         due.is("23: no debts, place 0", x.ring(0), -2);
         due.is("23: no debts, people", x.ring(8), -2);
+        due.is("23: no debts, place 7", x.ring(7), -2);
+        due.is("23: no debts, place 9", x.ring(9), -1);
+        due.is("23: no debts, place -2", x.ring(-2), -1);
+        due.is("23: no debts, the highest place", x.ring(Integer.MAX_VALUE), -1);
+        due.is("23: no debts, the lowest place", x.ring(Integer.MIN_VALUE), -1);
         x.red(0, 0, 5, 5, 3);
         x.red(0, 0, 5, 3, 7);
         due.is("23: no ring yet", x.ring(-1), -2);
