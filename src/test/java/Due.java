@@ -22,12 +22,12 @@ final class Due {
         System.exit(wrong == 0 ? 0 : 1);
     }
 
-    /** The bytes, and zeros up to the next twenty. */
+    /** The bytes, and up to the next twenty 255, which nothing but a number may have. */
     static void feed(BellRibbons x, int... bytes) {
         for (int k = 0; k < bytes.length; k += 20) {
             int[] five = new int[5];
             for (int m = 0; m < 20; m++) {
-                five[m / 4] = five[m / 4] << 8 | (k + m < bytes.length ? bytes[k + m] & 255 : 0);
+                five[m / 4] = five[m / 4] << 8 | (k + m < bytes.length ? bytes[k + m] & 255 : 255);
             }
             x.feed(five[0], five[1], five[2], five[3], five[4]);
         }

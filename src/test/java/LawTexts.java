@@ -28,6 +28,18 @@ final class LawTexts {
         }
     }
 
+    /** A short one that mostly holds. */
+    String simple() {
+        StringBuilder text = new StringBuilder();
+        int clauses = 1 + random.nextInt(2);
+        for (int k = 0; k < clauses; k++) {
+            text.append(k > 0 ? ";" : "").append(random.nextInt(3) == 0 ? 'g' : 'p');
+            sum(text, 6);
+            text.append(random.nextInt(3) > 0 ? "(1=1)" : random.nextBoolean() ? "(v>0)" : "(l>o*9)");
+        }
+        return text.toString();
+    }
+
     /** A right one with one sign more, less or another, or cut off; it may still be right. */
     String spoilt() {
         StringBuilder text = new StringBuilder(right());

@@ -569,6 +569,12 @@ public final class PromisesTest {
         }
         due.is("19: forty", suspectsBy(9), (1L << 40) - 1);
         due.is("19: none of forty", suspectsBy(10), 0);
+        fresh();
+        x.white(0, 1, 5, 0);
+        Due.law(x, "g2(l<2);g7(l<99);g4(1=1)");
+        due.is("19: by the length 99 alone", suspectsBy(13), 1);
+        due.is("19: by the length 1 alone", suspectsBy(11), 1);
+        due.is("19: by no length", suspectsBy(12), 0);
     }
 
     private static int gustBy(int n, int what, int... bytes) {
@@ -601,6 +607,11 @@ public final class PromisesTest {
         due.is("20: one case", gustBy(2, 0, 12, 9, 18), 9);
         due.is("20: lean 9 by 9 and all above", gustBy(1, 1, 18, 18), 91);
         due.is("20: lean 9 by the other wind", gustBy(2, 1, 18, 18, 9), 10);
+        // by wind 5 the lengths 1 to 9 but 5 lean 0, 1, 1, 2, 3, 4, 4, 5; by 9 each otherwise
+        x.wind(0);
+        due.is("20: two alike, then none", gustBy(2, 0, 9, 14, 18), 18);
+        due.is("20: two alike are the crowd", gustBy(2, 1, 9, 14, 14), 2);
+        x.wind(9);
         x.rod(0, 1);
         x.white(1, 0, 5, 0);
         x.seen(0, false);
@@ -767,6 +778,14 @@ public final class PromisesTest {
         x.wind(5);
         x.white(0, 0, 50, 0);
         rings("white ones do not count", 792, 0, 3, 6, 1, 4, 7, 2, 5);
+        fresh();
+        x.red(0, 0, 1, 0, 1);
+        x.red(0, 0, 9, 1, 0);
+        rings("a debt of 1", 2, 0, 1);
+        x.red(0, 0, 3, 0, 1);
+        rings("a debt that has grown", 8, 0, 1);
+        x.fall(2);
+        rings("a debt that is less", 2, 0, 1);
     }
 
     // Promise 24
@@ -791,6 +810,14 @@ public final class PromisesTest {
         due.is("24: none is left", x.ring(-1), -2);
         due.is("24: again", x.clear(), 0);
         due.is("24: a fallen one weighs as its length", x.ribbon(0, 7), 0);
+        fresh();
+        x.red(0, 0, 5, 0, 1);
+        x.red(0, 0, 7, 1, 0);
+        due.is("24: the lesser debt is gone", x.clear(), 10);
+        due.is("24: the rest of the other", x.owes(1, 0) * 10 + x.owes(0, 1), 20);
+        x.red(0, 0, 1, 0, 1);
+        due.is("24: cleared by 1", x.clear(), 2);
+        due.is("24: what is left", x.owes(1, 0), 1);
     }
 
     private static int runBy(int limit, int what, int... people) {
@@ -839,6 +866,16 @@ public final class PromisesTest {
         due.is("25: a fallen one is not taken", runBy(9, 1, 1), 9);
         x.stiff(0, 5);
         due.is("25: by the lean, not the moment", runBy(0, 0, 1), 2);
+        fresh();
+        x.stiff(0, 100);
+        x.white(0, 0, 6, 0);
+        x.white(0, 0, 7, 1);
+        Due.law(x, "p100(o=0)");
+        due.is("25: the push goes with it", runBy(1, 0, 0, 1), 3);
+        due.is("25: it is pushed over", runBy(0, 0, 0, 1), 0);
+        x.rod(0, 1);
+        x.move(0, 1, 0);
+        due.is("25: pushed on another rod", runBy(0, 0, 1, 0), 3);
     }
 
     private static void orders(String name, int people, int limit, int most, int... row) {

@@ -8,16 +8,24 @@ public final class RandomRunsTest {
     private static final int RUNS = 60;
     private static final int CALLS = 300;
 
+    // what half of a run's calls are about
+    private static final int DEBTS = 1;
+    private static final int WHITES = 2;
+    private static final int PICTURES = 3;
+    private static final int THEMES = 4;
+
     private final Random random;
     private final BellRibbons bank = new BellRibbons();
     private final PlainBank plain = new PlainBank();
     private final LawTexts texts;
+    private final int theme;
     private final List<String> told = new ArrayList<>();
     private boolean isWrong;
 
     private RandomRunsTest(int seed) {
         random = new Random(seed);
         texts = new LawTexts(random);
+        theme = seed % THEMES;
     }
 
     /** A second argument tells how many runs, a third by which seed the first one is drawn. */
@@ -40,8 +48,8 @@ public final class RandomRunsTest {
         for (int k = 0; k < rods; k++) {
             newRod();
         }
-        int ribbons = random.nextInt(seed % 16 == 0 ? 41 : 14);
-        boolean isRed = random.nextInt(3) == 0;
+        int ribbons = seed % 13 == 0 ? 40 : random.nextInt(14);
+        boolean isRed = theme == DEBTS;
         for (int k = 0; k < ribbons; k++) {
             if (isRed) {
                 newRed();
@@ -130,7 +138,7 @@ public final class RandomRunsTest {
         int arm = near(-9, 9);
         int length = near(1, random.nextBoolean() ? 99 : 5);
         int owner = someone();
-        int to = near(0, 7);
+        int to = theme == DEBTS ? someone() : near(0, 7);
         due("red(" + r + "," + arm + "," + length + "," + owner + "," + to + ")",
                 bank.red(r, arm, length, owner, to), plain.red(r, arm, length, owner, to));
     }
@@ -142,7 +150,7 @@ public final class RandomRunsTest {
         for (int k = 0; k < bytes.size(); k += 20) {
             int[] five = new int[5];
             for (int m = 0; m < 20; m++) {
-                int b = k + m < bytes.size() ? bytes.get(k + m) : random.nextInt(19);
+                int b = k + m < bytes.size() ? bytes.get(k + m) : random.nextInt(random.nextBoolean() ? 19 : 256);
                 five[m / 4] = five[m / 4] << 8 | b & 255;
             }
             due("feed" + Arrays.toString(five), bank.feed(five[0], five[1], five[2], five[3], five[4]), plain.feed(five));
@@ -154,8 +162,8 @@ public final class RandomRunsTest {
     }
 
     private void newLaw() {
-        int kind = random.nextInt(6);
-        String text = kind < 3 ? texts.right() : kind < 5 ? texts.spoilt() : texts.extreme();
+        int kind = random.nextInt(8);
+        String text = kind < 2 ? texts.simple() : kind < 5 ? texts.right() : kind < 7 ? texts.spoilt() : texts.extreme();
         List<Integer> bytes = new ArrayList<>();
         for (char c : text.toCharArray()) {
             bytes.add((int) c);
@@ -320,7 +328,48 @@ public final class RandomRunsTest {
         }
     }
 
+    private void askRing() {
+        int what = random.nextBoolean() ? -1 : near(-1, 8);
+        due("ring(" + what + ")", bank.ring(what), plain.ring(what));
+    }
+
+    private void askClear() {
+        if (random.nextInt(6) == 0) {
+            due("clear()", bank.clear(), plain.clear());
+        }
+    }
+
+    private void callByTheme() {
+        int kind = random.nextInt(4);
+        if (theme == DEBTS) {
+            switch (kind) {
+                case 0: askClear(); break;
+                case 1: newRed(); break;
+                default: askRing(); break;
+            }
+        } else if (theme == WHITES) {
+            switch (kind) {
+                case 0: askPay(); break;
+                case 1: askFraud(); break;
+                case 2: askRun(); break;
+                default: askOrder(); break;
+            }
+        } else if (theme == PICTURES) {
+            switch (kind) {
+                case 0: askLevel(); break;
+                case 1: askCheck(); break;
+                default: askFalse(); break;
+            }
+        } else {
+            change();
+        }
+    }
+
     private void call() {
+        if (random.nextBoolean()) {
+            callByTheme();
+            return;
+        }
         switch (random.nextInt(16)) {
             case 0: newLaw(); break;
             case 1: askLevel(); break;
@@ -332,15 +381,8 @@ public final class RandomRunsTest {
             case 7: askPay(); break;
             case 8: case 9: look(); break;
             case 10: keepOrDraw(); break;
-            case 11:
-                int what = near(-1, 8);
-                due("ring(" + what + ")", bank.ring(what), plain.ring(what));
-                break;
-            case 12:
-                if (random.nextInt(6) == 0) {
-                    due("clear()", bank.clear(), plain.clear());
-                }
-                break;
+            case 11: askRing(); break;
+            case 12: askClear(); break;
             default: change(); break;
         }
     }
