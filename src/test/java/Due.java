@@ -2,13 +2,19 @@
 final class Due {
     private int wrong;
     private int right;
+    private String sentence = "";
+
+    /** The document's sentence that the checks from here on are about: a fault is told with it. */
+    void says(String sentence) {
+        this.sentence = "\"" + sentence + "\": ";
+    }
 
     void is(String call, long got, long want) {
         if (got == want) {
             right++;
         } else {
             wrong++;
-            System.out.println(call + " answered " + got + ", due is " + want);
+            System.out.println(sentence + call + " answered " + got + ", due is " + want);
         }
     }
 
