@@ -345,10 +345,26 @@ public final class EdgesOfSearchTest {
             told(9, 18, b).empties("no such wind, and nothing may be false", x -> x.gust(1, 1), -2);
             told(18, 0, 9, b).empties("a second of one by " + b, x -> x.gust(1, 0), 9);
         }
+        due.says("A GUST by the first bytes of the tape (as falseBy(), then n WINDS and 9; n 1 to 6; empty then), what 0 the WIND and 9");
         for (int b = 0; b <= 18; b++) {
             int wind = b;
             told(18, 0, wind).empties("a wind by " + b, x -> x.gust(1, 0), wind);
-            told(9, 18, wind).empties("nothing may be false", x -> x.gust(1, 0), -3);
+        }
+        due.says("what 0 the WIND and 9, 1 how many with one PICTURE at most");
+        BellRibbons two = new BellRibbons();
+        two.white(0, 0, 5, 0);
+        two.white(0, 0, 5, 1);
+        Due.law(two, "p7(v=1&o=0&l=6)");
+        Due.feed(two, 9, 10);
+        due.is("one of 196 is pushed", two.gust(1, 1), 195);
+        Due.feed(two, 9, 9);
+        due.is("none is pushed", two.gust(1, 1), 196);
+        Due.feed(two, 9, 9, 10);
+        due.is("the wind that pushes", two.gust(2, 0), 10);
+        due.says("-3: nothing may be FALSE so");
+        for (int b = 0; b <= 18; b++) {
+            int wind = b;
+            told(9, 18, wind).empties("nothing may be false, a wind by " + b, x -> x.gust(1, 0), -3);
         }
         Edges empty = new Edges(due, () -> {
             BellRibbons x = new BellRibbons();
@@ -359,7 +375,7 @@ public final class EdgesOfSearchTest {
     }
 
     private static void gustTies() {
-        due.says("those with one and the same PICTURE are at most fewest (of like ones the first told one)");
+        due.says("of all such (a RIBBON and a LENGTH) those with one and the same PICTURE are at most fewest (of like ones the first told one)");
         BellRibbons x = new BellRibbons();
         x.stiff(0, 10);
         x.white(0, 1, 5, 0);
@@ -395,6 +411,7 @@ public final class EdgesOfSearchTest {
                 }
             }
         }
+        due.says("A FRAUD by the first n bytes of the tape (WINDS and 9; 1 to 6 days; empty then), what 0 n, 1 the RIBBON cut, 2 the one knotted");
         for (int n : N) {
             for (int what : N) {
                 String call = "fraud(0,1," + n + "," + what + ")";
@@ -407,6 +424,7 @@ public final class EdgesOfSearchTest {
                 noTape.leaves(call + " of no bytes", x -> x.fraud(0, 1, n, what), -1);
             }
         }
+        due.says("-2: there is none, no such WINDS");
         for (int k = 0; k < 256; k++) {
             int b = k;
             // by wind 9 rod 1 leans -8, as it would not any more
@@ -471,14 +489,15 @@ public final class EdgesOfSearchTest {
         for (int what : N) {
             due.is("ring(" + what + ") of none", new BellRibbons().ring(what), within(-1, what, 8) ? -2 : -1);
         }
-        due.says("A RING of debts: different PEOPLE (2 to 8)");
         for (int n = 2; n <= 8; n++) {
+            due.says("A RING of debts: different PEOPLE (2 to 8), each of whom owes the next one (red RIBBONS that hang), the last one the first");
             BellRibbons x = new BellRibbons();
             for (int k = 0; k < n - 1; k++) {
                 x.red(0, 0, 9 + k, 8 - n + k, 9 - n + k);
             }
             due.is("not closed yet by " + n, x.ring(-1), -2);
             x.red(0, 0, 99, 7, 8 - n);
+            due.says("THE BEST RING, what NONE how much is CUT, 8 of how many PEOPLE, else the PERSON at place what");
             for (int what : N) {
                 int want = what == -1 ? 9 * n : what == 8 ? n : within(0, what, n - 1) ? 8 - n + what : -1;
                 due.is("ring(" + what + ") of " + n, x.ring(what), want);
@@ -544,7 +563,7 @@ public final class EdgesOfSearchTest {
     }
 
     private static void run() {
-        due.says("-2: no such PEOPLE, one twice; NONE: no such ones, it has not so many (the tape stays).");
+        due.says("(PEOPLE, all different; 1 to 8; empty then), limit 0 to 9, what 0 who gets his (bits), 1 how much");
         Edges eight = told(7, 6, 5, 4, 3, 2, 1, 0);
         for (int n : N) {
             for (int k : N) {
@@ -554,6 +573,7 @@ public final class EdgesOfSearchTest {
                 noTape.leaves("run(" + n + "," + k + ",0) of no bytes", x -> x.run(n, k, 0), -1);
             }
         }
+        due.says("-2: no such PEOPLE, one twice; NONE: no such ones, it has not so many (the tape stays).");
         for (int k = 0; k < 256; k++) {
             int b = k;
             told(b).empties("one by " + b, x -> x.run(1, 9, 0), b > 7 ? -2 : 1 << b);

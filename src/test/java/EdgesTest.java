@@ -485,7 +485,7 @@ public final class EdgesTest {
                 due.is("check(" + n + ") of an empty tape", new BellRibbons().check(n), -2);
             }
         }
-        due.says("NONE: right; else the place of the first number that is not so (n: some are lacking)");
+        due.says("CHECK by the first n numbers of the tape (four bytes each; empty then): NONE: right; else the place of the first number that is not so (n: some are lacking)");
         int[] leans = {9, -9, -9, 0, 0};
         for (int n = 0; n <= 5; n++) {
             checks(n, n == 3 ? -1 : Math.min(3, n), leans);
@@ -508,7 +508,7 @@ public final class EdgesTest {
     }
 
     private static void count() {
-        due.says("NONE for others.");
+        due.says("0 RODS, 1 RIBBONS, 2 CLAUSES, 3 bytes of the tape, 4 X, 5 the WIND and 9, 6 how many RIBBONS hang. NONE for others.");
         int[] all = {3, 6, 2, 20, 4321, 11, 4};
         for (int what : N) {
             edges.leaves("count(" + what + ")", x -> x.count(what), within(0, what, 6) ? all[what] : -1);

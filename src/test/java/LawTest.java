@@ -237,6 +237,10 @@ public final class LawTest {
         LawTexts texts = new LawTexts(new Random(7));
         BellRibbons x = new BellRibbons();
         for (int k = 0; k < 20000; k++) {
+            if (k % 40 == 0) {
+                // an object is for 512 calls, and a text needs up to eleven
+                x = new BellRibbons();
+            }
             String text = k % 3 == 0 ? texts.right() : k % 3 == 1 ? texts.spoilt() : texts.extreme();
             int fault = PlainLaw.fault(text);
             due.is("law of " + text, Due.law(x, text), fault != 0 ? fault : text.split(";").length);

@@ -6,7 +6,8 @@ import java.util.Random;
 /** Runs of drawn calls (by seeds that stand fast), each answer held against the plain bank's. */
 public final class RandomRunsTest {
     private static final int RUNS = 60;
-    private static final int CALLS = 300;
+    // what an object answers behind its 512th call is free; one step of a run takes 13 calls at most
+    private static final int MOST_CALLS = 512 - 13;
 
     // what half of a run's calls are about
     private static final int DEBTS = 1;
@@ -57,7 +58,7 @@ public final class RandomRunsTest {
                 newRibbon();
             }
         }
-        for (int k = 0; k < CALLS && !isWrong; k++) {
+        while (told.size() < MOST_CALLS && !isWrong) {
             call();
         }
         if (isWrong) {
