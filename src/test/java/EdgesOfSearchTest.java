@@ -23,6 +23,7 @@ public final class EdgesOfSearchTest {
         gustTies();
         fraud();
         fraudLengths();
+        fraudWeights();
         owes();
         ring();
         ringTies();
@@ -140,6 +141,13 @@ public final class EdgesOfSearchTest {
         x.fall(3);
         x.fall(5);
         due.is("one leans otherwise", x.pay(1, 0, 1, -1), 1);
+        BellRibbons pushed = twoWhites(10, 10);
+        pushed.stiff(0, 10);
+        Due.law(pushed, "pl(1=1)");
+        due.is("pushed as much together as before", pushed.pay(6, 7, 9, -1), 0);
+        Due.law(pushed, "pl*2(o=7);pl(1=1)");
+        due.is("30 becomes 39", pushed.pay(6, 7, 9, -1), 0);
+        due.is("30 becomes 29", pushed.pay(7, 6, 1, -1), 1);
     }
 
     /** Ribbons 0 to 3 hang, 4 and 5 have fallen. */
@@ -276,6 +284,26 @@ public final class EdgesOfSearchTest {
             due.is("99 but " + length, x.falseBy(0), length == 99 ? 0 : 1);
             x.seen(0, false);
             due.is("nothing is seen, no byte is asked", x.falseBy(0), 98);
+        }
+        for (int k = 0; k < 2; k++) {
+            // 0 long it would lean 0, 100 long 1 by a stiffness of 100
+            BellRibbons x = new BellRibbons();
+            x.white(0, 1, 5, 0);
+            x.stiff(0, k == 0 ? 1 : 100);
+            int lean = 9 + k;
+            Due.feed(x, lean);
+            due.is("falseBy by " + 100 * k, x.falseBy(0), 0);
+            Due.feed(x, lean);
+            due.is("suspects by " + 100 * k, x.suspects(), 0);
+            Due.feed(x, lean, 9);
+            due.is("gust by " + 100 * k, x.gust(1, 1), -3);
+            x.stiff(0, k == 0 ? 2 : 99);
+            Due.feed(x, lean);
+            due.is("falseBy by " + (1 + 98 * k), x.falseBy(0), 1);
+            Due.feed(x, lean);
+            due.is("suspects by " + (1 + 98 * k), x.suspects(), 1);
+            Due.feed(x, lean, 9);
+            due.is("gust by " + (1 + 98 * k), x.gust(1, 1), 1);
         }
         due.says("by the WIND as it is");
         BellRibbons x = new BellRibbons();
@@ -474,6 +502,34 @@ public final class EdgesOfSearchTest {
         due.is("nobody sees it", x.fraud(1, 0, 2, 0), 9);
     }
 
+    private static void fraudWeights() {
+        due.says("n cut from a white RIBBON of the one and knotted to a white one of the other");
+        BellRibbons x = new BellRibbons();
+        x.stiff(0, 10);
+        x.white(0, 1, 20, 0);
+        x.white(0, 9, 5, 1);
+        x.white(0, 1, 5, 1);
+        // moment 70: knotted at arm 9 it would lean otherwise, at arm 1 it stays
+        int[] want = {19, 0, 2};
+        for (int what = 0; what < 3; what++) {
+            Due.feed(x, 9);
+            due.is("as much as is cut is knotted, " + what, x.fraud(0, 1, 1, what), want[what]);
+        }
+        Due.law(x, "g0(1=1);pl*v(a=1)");
+        // by wind 1 it is pushed by 25 together, by wind 0 by nothing
+        for (int what = 0; what < 3; what++) {
+            Due.feed(x, 10, 9);
+            due.is("pushed as before, " + what, x.fraud(0, 1, 2, what), want[what]);
+        }
+        x.fall(2);
+        Due.feed(x, 10, 9);
+        due.is("20 less 1 is 1 through 10", x.fraud(0, 1, 2, 0), -2);
+        x.wind(1);
+        x.stiff(0, 3);
+        Due.feed(x, 10);
+        due.is("6 by 20 to 18", x.fraud(0, 1, 1, 0), 2);
+    }
+
     private static void owes() {
         due.says("How much one PERSON owes another one; NONE: no such ones.");
         for (int a : N) {
@@ -526,6 +582,17 @@ public final class EdgesOfSearchTest {
         due.is("of 0 1 2 and 0 2 1 the least row", x.ring(1) * 10 + x.ring(2), 12);
         x.fall(6);
         due.is("what has fallen does not count", x.ring(1) * 10 + x.ring(2), 21);
+        for (int n = 3; n <= 8; n++) {
+            // two people by 6, and n people by so little that it is just more than 12 together
+            BellRibbons y = new BellRibbons();
+            y.red(0, 0, 6, 0, 1);
+            y.red(0, 0, 6, 1, 0);
+            for (int k = 0; k < n; k++) {
+                y.red(0, 0, 12 / n + 1, 8 - n + k, k == n - 1 ? 8 - n : 9 - n + k);
+            }
+            due.is("many small debts of " + n, y.ring(-1), (12 / n + 1) * n);
+            due.is("so many people, " + n, y.ring(8), n);
+        }
     }
 
     private static void clear() {
@@ -630,10 +697,32 @@ public final class EdgesOfSearchTest {
             due.is("row " + k + ", how much", x.run(4, 5, 1), got[k]);
         }
         due.is("nothing is changed", x.count(6), 4);
+        runBelow();
         Due.feed(x, 0, 3);
         due.is("behind the last minute it is not looked", x.run(2, 5, 0), 0b1001);
         Due.feed(x, 0, 3, 7);
         due.is("who has none gets nothing when it has tipped", x.run(3, 5, 0), 0b1001);
+    }
+
+    /** Ribbons of a rod below weigh at the arm of the rod, wherever they hang on it. */
+    private static void runBelow() {
+        BellRibbons x = new BellRibbons();
+        x.rod(0, 3);
+        x.rod(1, -9);
+        x.white(1, 5, 7, 0);
+        x.white(0, -3, 7, 1);
+        x.white(2, 9, 7, 2);
+        x.white(0, -3, 7, 3);
+        x.stiff(0, 5);
+        // each is worth 21, 4 through 5
+        for (int p = 0; p < 4; p++) {
+            Due.feed(x, p, (p + 1) % 4);
+            due.is("tipped without " + p, x.run(2, 3, 0), 1 << p);
+            Due.feed(x, p, (p + 1) % 4, (p + 2) % 4);
+            due.is("level again without the next one, " + p, x.run(3, 4, 1), 21);
+            Due.feed(x, p, (p + 2) % 4, (p + 1) % 4);
+            due.is("tipped without both, " + p, x.run(3, 4, 1), 14);
+        }
     }
 
     private static void order() {
