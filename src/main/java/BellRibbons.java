@@ -829,7 +829,8 @@ public final class BellRibbons {
             fault = 0;
             draft.forget();
             boolean isMore = readClause();
-            while (isMore && at < length) {
+            // one clause more than there may be is begun, since it is a fault of its own
+            for (int k = 0; k < Law.MOST_CLAUSES && isMore && at < length; k++) {
                 isMore = take(';') && readClause();
             }
             return fault;
@@ -853,8 +854,13 @@ public final class BellRibbons {
             return true;
         }
 
-        private boolean open(int sign, int depth) {
-            return depth >= MOST_OPEN ? fail(TOO_DEEP) : take(sign);
+        /** Goes past a sign that opens, which stands next. */
+        private boolean open(int depth) {
+            if (depth >= MOST_OPEN) {
+                return fail(TOO_DEEP);
+            }
+            at++;
+            return true;
         }
 
         private boolean readClause() {
@@ -867,7 +873,7 @@ public final class BellRibbons {
             }
             at++;
             draft.startClause(letter);
-            if (!readSum(0) || !open('(', 0)) {
+            if (!readSum(0) || !take('(')) {
                 return false;
             }
             draft.startCondition();
@@ -913,14 +919,14 @@ public final class BellRibbons {
         private boolean readPiece(int depth) {
             int sign = next();
             if (sign == '!') {
-                if (!open(sign, depth) || !readPiece(depth + 1)) {
+                if (!open(depth) || !readPiece(depth + 1)) {
                     return false;
                 }
                 draft.emit(Law.NOT, 0);
                 return true;
             }
             if (sign == '(') {
-                return open(sign, depth) && readCondition(depth + 1) && take(')');
+                return open(depth) && readCondition(depth + 1) && take(')');
             }
             if (!readSum(depth)) {
                 return false;
@@ -970,7 +976,7 @@ public final class BellRibbons {
         private boolean readFactor(int depth) {
             int sign = next();
             if (sign == '[') {
-                return open(sign, depth) && readSum(depth + 1) && take(']');
+                return open(depth) && readSum(depth + 1) && take(']');
             }
             if (isDigit(sign)) {
                 return readNumber();
